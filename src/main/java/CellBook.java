@@ -20,6 +20,7 @@ public final class CellBook {
     private static final int NAMES = 10;
     private static final int LOCALS = 6;
     private static final int LONGEST_TEXT = 24;
+    private static final int FUNCTION_HEAD = 2;
     private static final int MOST_AROUND = 5;
     private static final int MOST_OPEN_FUNCTIONS = 5;
     private static final int MOST_STEPS = 2000;
@@ -42,7 +43,6 @@ public final class CellBook {
     private final Evaluator evaluator;
     private final char[] typed;
     private int typedLength;
-    private int stepCount;
 
     public CellBook() {
         cells = new Cell[CELLS];
@@ -54,7 +54,6 @@ public final class CellBook {
         evaluator = new Evaluator();
         typed = new char[LONGEST_TEXT];
         typedLength = 0;
-        stepCount = 0;
     }
 
     public int type(long characters, int n) {
@@ -72,8 +71,10 @@ public final class CellBook {
         if (!isCell(c) || name < 0 || name >= NAMES || typedLength == 0) {
             return false;
         }
-        int oldAndNew = cells[c].nameBit() | 1 << name;
-        cells[c].fill(name, typed, typedLength);
+        Cell cell = cells[c];
+        int oldAndNew = cell.nameBit() | 1 << name;
+        cell.name = name;
+        cell.text.read(typed, typedLength);
         typedLength = 0;
         follow(oldAndNew);
         return true;
@@ -133,7 +134,7 @@ public final class CellBook {
     }
 
     public int steps() {
-        return stepCount;
+        return evaluator.stepsInAll;
     }
 
     private static boolean isCell(int c) {
@@ -326,17 +327,8 @@ public final class CellBook {
         } else if (cell.text.isFunction()) {
             cell.result = FUNCTION;
         } else {
-            run(cell, sort);
+            evaluator.run(cell, sort, definers);
         }
-    }
-
-    private void run(Cell cell, int sort) {
-        int amount = evaluator.evaluate(definers, cell.text);
-        cell.runCount++;
-        stepCount += evaluator.stepsMade;
-        cell.amount = amount;
-        cell.sort = sort;
-        cell.result = evaluator.error == NO_ERROR ? VALUE : evaluator.error;
     }
 
     private static final class Cell {
@@ -358,11 +350,6 @@ public final class CellBook {
             amount = 0;
             sort = WRONG;
             runCount = 0;
-        }
-
-        void fill(int newName, char[] signs, int count) {
-            name = newName;
-            text.read(signs, count);
         }
 
         void clear() {
@@ -400,6 +387,7 @@ public final class CellBook {
         private final char[] signs;
         private final int[] ends;
         private int length;
+        private int start;
         private boolean wellFormed;
         private int names;
 
@@ -407,6 +395,7 @@ public final class CellBook {
             signs = new char[LONGEST_TEXT];
             ends = new int[LONGEST_TEXT];
             length = 0;
+            start = 0;
             wellFormed = false;
             names = 0;
         }
@@ -420,25 +409,17 @@ public final class CellBook {
         void read(char[] from, int count) {
             length = Math.min(count, LONGEST_TEXT);
             System.arraycopy(from, 0, signs, 0, length);
+            boolean hasHead = signAt(0) == '\\' && isLocal(signAt(1));
+            start = hasHead ? FUNCTION_HEAD : 0;
             names = 0;
-            int bound = hasFunctionHead() ? 1 << localAt(1) : 0;
-            wellFormed = readExpression(start(), 0, bound) == length;
+            wellFormed = readExpression(start, 0, hasHead ? 1 << localAt(1) : 0) == length;
             if (!wellFormed) {
                 names = 0;
             }
         }
 
         boolean isFunction() {
-            return wellFormed && hasFunctionHead();
-        }
-
-        private boolean hasFunctionHead() {
-            return signAt(0) == '\\' && isLocal(signAt(1));
-        }
-
-        /** Where the expression of the text begins. */
-        int start() {
-            return hasFunctionHead() ? 2 : 0;
+            return wellFormed && start == FUNCTION_HEAD;
         }
 
         char signAt(int at) {
@@ -500,11 +481,12 @@ public final class CellBook {
         }
 
         private int readBinding(int at, int around, int bound) {
-            if (!isLocal(signAt(at + 1))) {
+            char local = signAt(at + 1);
+            if (!isLocal(local)) {
                 return NONE;
             }
             int end = readExpression(at + 2, around, bound);
-            return readExpression(end, around, bound | 1 << localAt(at + 1));
+            return readExpression(end, around, bound | 1 << local - 'k');
         }
 
         private int readMatch(int at, int around, int bound) {
@@ -521,7 +503,7 @@ public final class CellBook {
         private int readLeaf(int at, int bound) {
             char sign = signAt(at);
             if (isLocal(sign)) {
-                return hasBit(bound, localAt(at)) ? at + 1 : NONE;
+                return hasBit(bound, sign - 'k') ? at + 1 : NONE;
             }
             return isDigit(sign) ? at + 1 : readName(at);
         }
@@ -539,7 +521,7 @@ public final class CellBook {
     /** The types of well-formed texts: INT, BOOL, or WRONG where they are not as the document says. */
     private static final class Types {
         static int ofText(Cell[] definers, Text text) {
-            int sort = ofExpression(definers, text, text.start(), 0);
+            int sort = ofExpression(definers, text, text.start, 0);
             return text.isFunction() && sort != INT ? WRONG : sort;
         }
 
@@ -640,6 +622,7 @@ public final class CellBook {
         private final Frame[] frames;
         private Cell[] definers;
         private int stepsMade;
+        private int stepsInAll;
         private int error;
 
         Evaluator() {
@@ -649,15 +632,20 @@ public final class CellBook {
             }
             definers = null;
             stepsMade = 0;
+            stepsInAll = 0;
             error = NO_ERROR;
         }
 
-        int evaluate(Cell[] definersNow, Text text) {
+        void run(Cell cell, int sort, Cell[] definersNow) {
             definers = definersNow;
             stepsMade = 0;
             error = NO_ERROR;
-            frames[0].text = text;
-            return ofExpression(frames[0], text.start(), 0);
+            frames[0].text = cell.text;
+            cell.amount = ofExpression(frames[0], cell.text.start, 0);
+            cell.sort = sort;
+            cell.result = hasFailed() ? error : VALUE;
+            cell.runCount++;
+            stepsInAll += stepsMade;
         }
 
         private int fail(int why) {
@@ -670,7 +658,11 @@ public final class CellBook {
         }
 
         private int ofExpression(Frame frame, int at, int around) {
-            if (stepsMade >= MOST_STEPS || around > MOST_AROUND) {
+            // No well-formed text goes deeper, but rule 8 of LANGUAGE.md asks for a guard in the recursion itself.
+            if (around > MOST_AROUND) {
+                return fail(DEPTH);
+            }
+            if (stepsMade >= MOST_STEPS) {
                 return fail(FUEL);
             }
             stepsMade++;
@@ -702,7 +694,7 @@ public final class CellBook {
         private int ofLeaf(Frame frame, int at) {
             char sign = frame.text.signAt(at);
             if (isLocal(sign)) {
-                return frame.locals[frame.text.localAt(at)];
+                return frame.locals[sign - 'k'];
             }
             if (isDigit(sign)) {
                 return sign - '0';
@@ -785,7 +777,7 @@ public final class CellBook {
             Frame inner = frames[frame.openFunctions + 1];
             inner.text = called.text;
             inner.locals[called.text.localAt(1)] = argument;
-            return ofExpression(inner, called.text.start(), 0);
+            return ofExpression(inner, called.text.start, 0);
         }
 
         private int ofMatch(Frame frame, int at, int around) {

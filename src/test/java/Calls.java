@@ -1,5 +1,8 @@
 /** Makes calls, and prints each whose answer is not the one that is due. */
 final class Calls {
+    /** Numbers of no cell and of no name. */
+    static final int[] NO_CELLS = {-1, 10, Integer.MIN_VALUE, Integer.MAX_VALUE};
+
     private int made = 0;
     private int wrong = 0;
 

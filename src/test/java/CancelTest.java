@@ -11,8 +11,7 @@ public final class CancelTest {
 
     private static void wrongInputs(Calls calls) {
         CellBook book = new CellBook();
-        int[] none = {-1, 10, Integer.MIN_VALUE, Integer.MAX_VALUE};
-        for (int wrong : none) {
+        for (int wrong : Calls.NO_CELLS) {
             calls.due("cancel(" + wrong + ")", book.cancel(wrong), false);
         }
         calls.due("an EMPTY cell", book.cancel(0), false);

@@ -3,8 +3,7 @@ public final class RunsTest {
     public static void main(String[] args) {
         Calls calls = new Calls();
         CellBook book = new CellBook();
-        int[] none = {-1, 10, Integer.MIN_VALUE, Integer.MAX_VALUE};
-        for (int wrong : none) {
+        for (int wrong : Calls.NO_CELLS) {
             calls.due("runs(" + wrong + ")", book.runs(wrong), 0);
         }
         calls.put(book, 9, 'j', "1");

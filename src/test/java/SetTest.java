@@ -18,8 +18,7 @@ public final class SetTest {
         calls.due("work", book.work(20), 1);
         calls.due("nothing is typed", book.set(0, 1), false);
         calls.due("type", Calls.type(book, "8"), 1);
-        int[] none = {-1, 10, Integer.MIN_VALUE, Integer.MAX_VALUE};
-        for (int wrong : none) {
+        for (int wrong : Calls.NO_CELLS) {
             calls.due("set(" + wrong + ", 0)", book.set(wrong, 0), false);
             calls.due("set(0, " + wrong + ")", book.set(0, wrong), false);
         }

@@ -26,8 +26,7 @@ public final class StatusTest {
 
     private static void noSuchCell(Calls calls) {
         CellBook book = new CellBook();
-        int[] none = {-1, 10, Integer.MIN_VALUE, Integer.MAX_VALUE};
-        for (int wrong : none) {
+        for (int wrong : Calls.NO_CELLS) {
             calls.due("status(" + wrong + ")", book.status(wrong), CellBook.EMPTY);
         }
     }
@@ -55,8 +54,8 @@ public final class StatusTest {
 
     private static void bound(Calls calls) {
         CellBook book = new CellBook();
-        String[] wrong = {"k", "p", "+k1", "$kk1", "$k1l", "$l1k", "+$k1kk", "$k$l1ll", "\\kl", "\\k$ll1", "\\k+k$l1+kp",
-            "#k1111", "$kk+k1"};
+        String[] wrong = {"k", "p", "+k1", "$q1q", "\\qq", "$j11", "\\j1", "$kk1", "$k1l", "$l1k", "+$k1kk",
+            "$k$l1ll", "\\kl", "\\k$ll1", "\\k+k$l1+kp", "#k1111", "$kk+k1"};
         for (String text : wrong) {
             statusAtOnce(calls, book, text, CellBook.SYNTAX);
         }
@@ -141,8 +140,8 @@ public final class StatusTest {
         calls.put(book, 1, 'b', "=11");
         calls.put(book, 2, 'f', "\\k+kk");
         calls.due("work", book.work(20), 3);
-        String[] wrong = {"+b1", "+1b", "-b1", "*1b", "/b1", "<1b", "<b1", "=bb", "=1b", "&1b", "&b1", "&11", "~1", "~a",
-            "?111", "?b1b", "?bb1", "?b1f", "!fb", "!a1", "!b1", "f", "+1f", "#b1111", "#11b11",
+        String[] wrong = {"+b1", "+1b", "-b1", "*1b", "/b1", "<1b", "<b1", "=bb", "=1b", "&1b", "&b1", "&11", "~1",
+            "~a", "?111", "?b1b", "?bb1", "?b1f", "!fb", "!a1", "!b1", "f", "+1f", "#b1111", "#11b11",
             "#1111b", "$kb1", "$kbb", "$k1~k", "&~b~1", "\\kb", "\\k=kk", "\\k~k", "\\kj", "\\k?b1j", "?~b+1b1",
             "$kfk"};
         for (String text : wrong) {

@@ -33,6 +33,10 @@ public final class StepsTest {
         costs(calls, book, "#2112*22", 5);
         costs(calls, book, "#31122", 2);
         costs(calls, book, "+/10+12", 4);
+        costs(calls, book, "$k/10+kk", 4);
+        costs(calls, book, "?=1/10+11+22", 6);
+        costs(calls, book, "&=1/10=11", 6);
+        costs(calls, book, "#/100+1112", 4);
         costs(calls, book, "+", 0);
         costs(calls, book, "~1", 0);
         costs(calls, book, "\\k1", 0);

@@ -3,8 +3,7 @@ public final class UsesTest {
     public static void main(String[] args) {
         Calls calls = new Calls();
         CellBook book = new CellBook();
-        int[] none = {-1, 10, Integer.MIN_VALUE, Integer.MAX_VALUE};
-        for (int wrong : none) {
+        for (int wrong : Calls.NO_CELLS) {
             calls.due("uses(" + wrong + ")", book.uses(wrong), 0);
         }
         calls.due("an EMPTY cell", book.uses(0), 0);

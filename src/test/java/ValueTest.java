@@ -22,8 +22,7 @@ public final class ValueTest {
 
     private static void noSuchCell(Calls calls) {
         CellBook book = new CellBook();
-        int[] none = {-1, 10, Integer.MIN_VALUE, Integer.MAX_VALUE};
-        for (int wrong : none) {
+        for (int wrong : Calls.NO_CELLS) {
             calls.due("value(" + wrong + ")", book.value(wrong), 0);
         }
         calls.put(book, 0, 'a', "5");
