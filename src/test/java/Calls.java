@@ -1,7 +1,8 @@
 /** Makes calls, and prints each whose answer is not the one that is due. */
 final class Calls {
-    /** Numbers of no cell and of no name. */
-    static final int[] NO_CELLS = {-1, 10, Integer.MIN_VALUE, Integer.MAX_VALUE};
+    /** Numbers of no cell and of no name: the next ones, and those of which a part of the bits would be one. */
+    static final int[] NO_CELLS = {-1, 10, -2, 11, 15, 16, 31, 32, 41, -9, -10, -16, -32, 256, 265, -256, 65536,
+        1 << 30, Integer.MAX_VALUE, Integer.MIN_VALUE, Integer.MIN_VALUE + 9};
 
     private int made = 0;
     private int wrong = 0;
@@ -25,6 +26,14 @@ final class Calls {
             characters |= (long) piece.charAt(i) << 8 * i;
         }
         return book.type(characters, piece.length());
+    }
+
+    /** Types a text and sets a cell to it, without a look at the answers. */
+    static void write(CellBook book, int c, char name, String text) {
+        for (int from = 0; from < text.length(); from += 8) {
+            type(book, text.substring(from, Math.min(from + 8, text.length())));
+        }
+        book.set(c, name - 'a');
     }
 
     /** Types a text and sets a cell to it. */
