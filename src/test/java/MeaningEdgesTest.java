@@ -169,13 +169,17 @@ public final class MeaningEdgesTest {
         calls.put(book, 0, 'f', "\\k$l+k1*kl");
         calls.put(book, 1, 'g', "\\l?<l11*l!g-l1");
         calls.put(book, 2, 'h', "\\p-!fp!fp");
-        calls.due("work", book.work(20), 3);
+        calls.put(book, 3, 'i', "\\l?<l11*!i-l1l");
+        calls.put(book, 4, 'e', "\\k-$k1kk");
+        calls.due("work", book.work(20), 5);
         isInt(calls, book, "!f3", 12, 9);
         isInt(calls, book, "$k9-!f3k", 3, 13);
         isInt(calls, book, "$l9-!f3l", 3, 13);
         isInt(calls, book, "$k2$l3+!fk*kl", 12, 17);
         isInt(calls, book, "$l5+!g3l", 11, 41);
         isInt(calls, book, "!h4", 0, 21);
+        isInt(calls, book, "!i4", 24, 47);
+        isInt(calls, book, "!e7", -6, 7);
         calls.put(book, 0, 'f', "\\k+kl");
         calls.due("a local of the caller is not BOUND in it", book.status(0), CellBook.SYNTAX);
     }

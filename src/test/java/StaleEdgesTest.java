@@ -135,7 +135,11 @@ public final class StaleEdgesTest {
         areStale(calls, users, "what a uses is not STALE by it", 0);
         calls.put(users, 1, 'b', "1");
         calls.due("cancel", users.cancel(1), true);
-        areStale(calls, users, "nobody becomes STALE by work or cancel", 0);
+        areStale(calls, users, "a, and b not any more", 0);
+        calls.put(users, 1, 'b', "1");
+        calls.due("cancel a", users.cancel(0), true);
+        calls.due("cancel b", users.cancel(1), true);
+        areStale(calls, users, "nobody becomes STALE by a cancel");
     }
 
     private static void faultsAreStaleToo(Calls calls) {

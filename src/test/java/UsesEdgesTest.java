@@ -41,6 +41,14 @@ public final class UsesEdgesTest {
         uses(calls, "5", 0);
         uses(calls, "$k1$l2+kl", 0);
         uses(calls, "\\kk", 0);
+        CellBook book = new CellBook();
+        calls.put(book, 0, 'a', "!f1");
+        calls.put(book, 1, 'f', "\\k+kb");
+        calls.put(book, 2, 'b', "c");
+        calls.put(book, 3, 'c', "1");
+        calls.due("work", book.work(20), 4);
+        calls.due("what a function uses is its own affair", book.uses(0), 32);
+        calls.due("and what a cell uses, too", book.uses(1), 2);
     }
 
     /** "(a cell with it uses nothing)": also what stands before the fault. */
