@@ -10,7 +10,7 @@ public final class BlockedEdgesTest {
         calls.end();
     }
 
-    /** "BLOCKED, if a cell that defines what it uses has a fault, or is BLOCKED, CANCELLED, or has TYPE or an error". */
+    /** "if a cell that defines what it uses has a fault, or is BLOCKED, CANCELLED, or has TYPE or an error". */
     private static void byEveryStatus(Calls calls) {
         for (int status = CellBook.SYNTAX; status <= CellBook.VALUE; status++) {
             boolean isGiven = status == CellBook.VALUE;

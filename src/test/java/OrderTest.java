@@ -16,7 +16,60 @@ public final class OrderTest {
             edited.work(20);
             compare(calls, run, edited, writtenAtOnce(calls, texts, names));
         }
+        everyOrderOfFive(calls, new int[5], 0);
         calls.end();
+    }
+
+    /** Cells 0 to 4 are written in every order, with work(0), work(1) or work(20) behind each. */
+    private static void everyOrderOfFive(Calls calls, int[] order, int known) {
+        if (known == order.length) {
+            for (int work = 0; work < 81; work++) {
+                inOrder(calls, order, work, false);
+                inOrder(calls, order, work, true);
+            }
+            return;
+        }
+        for (int c = 0; c < order.length; c++) {
+            if (isNew(order, known, c)) {
+                order[known] = c;
+                everyOrderOfFive(calls, order, known + 1);
+            }
+        }
+    }
+
+    private static boolean isNew(int[] order, int known, int c) {
+        for (int i = 0; i < known; i++) {
+            if (order[i] == c) {
+                return false;
+            }
+        }
+        return true;
+    }
+
+    /** Other cells before make types wrong, names double and rings, while not all of the five are written. */
+    private static void inOrder(Calls calls, int[] order, int work, boolean othersBefore) {
+        CellBook book = new CellBook();
+        if (othersBefore) {
+            String[] before = {"=11", "c", "b", "\\k!fd", "+"};
+            for (int c = 0; c < before.length; c++) {
+                Calls.write(book, c, "abcfd".charAt(c), before[c]);
+            }
+            book.work(work % 5);
+        }
+        String[] texts = {"2", "+a1", "\\k+kb", "!f4", "<ca"};
+        int amounts = work;
+        for (int c : order) {
+            Calls.write(book, c, "abfcd".charAt(c), texts[c]);
+            book.work(amounts % 3 == 2 ? 20 : amounts % 3);
+            amounts /= 3;
+        }
+        book.work(20);
+        calls.shows(book, 0, CellBook.VALUE, 2, 1);
+        calls.shows(book, 1, CellBook.VALUE, 3, 1);
+        calls.shows(book, 2, CellBook.FUNCTION, 0, 0);
+        calls.shows(book, 3, CellBook.VALUE, 7, 1);
+        calls.shows(book, 4, CellBook.VALUE, 0, 2);
+        calls.due("nothing is STALE", book.work(20), 0);
     }
 
     private static void edit(Calls calls, Dice dice, CellBook book, String[] texts, char[] names) {

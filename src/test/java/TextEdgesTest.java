@@ -7,6 +7,7 @@ public final class TextEdgesTest {
         oneCharacter(calls);
         functionsOfALocal(calls);
         asManyExpressionsAsItSays(calls);
+        atAnEndBehind24(calls);
         locals(calls);
         names(calls);
         digits(calls);
@@ -59,6 +60,23 @@ public final class TextEdgesTest {
             wrong(calls, text + "1", text.substring(0, text.length() - 1), text.substring(0, 1), text + text);
         }
         wrong(calls, "12", "1+2", "12+", "1~", "#1325", "#132546", "#1325", "#132", "#13", "$k1", "$k", "!b", "?12");
+    }
+
+    /** "a TEXT of 1 to 24 characters": nothing stands behind the 24th, whatever it asks for. */
+    private static void atAnEndBehind24(Calls calls) {
+        String before24 = "?++11+11++11+11+++11+11";
+        for (char sign = 33; sign <= 126; sign++) {
+            boolean isExpression = sign >= '0' && sign <= '9' || sign >= 'a' && sign <= 'j';
+            reads(calls, before24 + sign, isExpression);
+        }
+        String before23 = "?++11+11++11+11++1~+11";
+        right(calls, before23 + "1", before23 + "~1");
+        wrong(calls, before23 + "#1", before23 + "$k", before23 + "!b", before23 + "+1", before23 + "?1",
+            before23 + "11");
+        String before21 = "?++11+11++11+11+~+11";
+        right(calls, before21 + "$k11", before21 + "?111");
+        wrong(calls, before21 + "#111", before21 + "#11b", before21 + "$k1+",
+            before21 + "?11~", before21 + "!b!b");
     }
 
     /** "$", a local. */
